@@ -7,6 +7,7 @@ public final class CountTest {
         changedByCalls();
         changedWithoutBase();
         changedByWholeFile();
+        changedBehindBase();
         changedByRefusedFile();
         changedByChanges();
         DUE.end();
@@ -92,6 +93,19 @@ public final class CountTest {
         x.take(3, 0);
         DUE.is("load once more", x.load(), 5);
         DUE.is("all as in the file", x.count(4), 0);
+    }
+
+    /** Which parts are changed is seen in a file of changes. */
+    private static void changedBehindBase() {
+        FormatFiles x = new FormatFiles();
+        x.put(0, 0, 1);
+        x.put(5, 0, 1);
+        x.put(11, 0, 1);
+        HandFile.whole(1, 1).section(5, 0, 1, 0, 2).into(x);
+        DUE.is("load", x.load(), 1);
+        DUE.is("save of changes", x.save(false), 9 + 9 + 7);
+        DUE.is("the first part", x.octet(9), 0);
+        DUE.is("the second part", x.octet(18), 11);
     }
 
     private static void changedByRefusedFile() {

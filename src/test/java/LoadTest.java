@@ -24,6 +24,8 @@ public final class LoadTest {
         needsOverOthers();
         loadedAtOnce();
         manySections();
+        loadBehindLoad();
+        firstPartRefused();
         base();
         told();
         DUE.end();
@@ -280,7 +282,6 @@ public final class LoadTest {
             file.bytes(0).count(i % 2 == 0 ? -1 - i : i);
         }
         file.end().section(1, 0, 1, 99, 128, 128, 128, 128, 128, 128, 128, 128, 128, 1).into(x);
-        x.cut(x.count(2));
         DUE.is("a full part", x.load(), 2);
         DUE.is("its entries", x.count(5), 101);
         DUE.is("the first of them", x.get(0, 0), Long.MIN_VALUE);
@@ -389,6 +390,45 @@ public final class LoadTest {
         isTold("the last", x, 254, -1, 4);
         DUE.is("none behind", x.told(255, 1), -1);
         DUE.is("all parts have come", x.count(3), 12);
+        DUE.is("no conflicts", x.count(1), 0);
+    }
+
+    /** Nothing of a load is left in the next one. */
+    private static void loadBehindLoad() {
+        FormatFiles x = new FormatFiles();
+        x.put(0, 0, 7);
+        x.put(1, 0, 7);
+        HandFile.whole(1, 2).section(0, 0, 2, 0, 2, 0, 2).section(1, 1, 0).into(x);
+        DUE.is("two conflicts", x.load(), 2);
+        DUE.is("two conflicts are told", x.count(1), 2);
+        HandFile.whole(1, 1).section(0, 0, 0).into(x);
+        DUE.is("one section", x.load(), 1);
+        DUE.is("no conflicts are left", x.count(1), 0);
+        HandFile.whole(1, 2).section(3, 0, 0).begin().bytes(0, 0, 1, 0, 2).wrongEnd().into(x);
+        DUE.is("one loaded, one refused", x.load(), 1);
+        DUE.is("no conflict in what is refused", x.told(1, 2), 0);
+        FormatFiles y = new FormatFiles();
+        HandFile.whole(1, 1).section(0, 0, 2, 0, 2, 0, 2).into(y);
+        DUE.is("two entries", y.load(), 1);
+        y.take(0, 0);
+        y.take(0, 1);
+        HandFile.whole(1, 1).section(0, 0, 1, 1, 4).into(y);
+        DUE.is("one entry", y.load(), 1);
+        DUE.is("only this has come", y.count(5), 1);
+        HandFile.whole(1, 1).begin().bytes(0, 0, 0).wrongEnd().into(y);
+        DUE.is("part 0 is refused", y.load(), 0);
+        HandFile.whole(1, 1).section(0, 0, 0).into(y);
+        DUE.is("part 0 is not refused any more", y.load(), 1);
+    }
+
+    private static void firstPartRefused() {
+        FormatFiles x = new FormatFiles();
+        x.needs(1, 0, true);
+        HandFile.whole(1, 3).begin().bytes(0, 0, 0).wrongEnd().section(1, 0, 1, 0, 0).section(2, 1, 0).into(x);
+        DUE.is("part 0 is refused", x.load(), 0);
+        isTold("part 0 is refused", x, 0, 0, 6);
+        isTold("part 1 needs it", x, 1, 1, 8);
+        isTold("part 2 has its rows", x, 2, 2, 7);
     }
 
     private static void base() {
