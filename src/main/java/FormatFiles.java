@@ -41,7 +41,7 @@ public final class FormatFiles {
 
     public FormatFiles() {
         setter = new Setter();
-        atHand = new Octets();
+        atHand = new Octets(MOST_BYTES);
         writer = new Writer(setter);
         loader = new Loader(setter, atHand);
     }
@@ -110,10 +110,10 @@ public final class FormatFiles {
         if (!whole && !setter.hasBase) {
             return NOT_NOW;
         }
-        if (!writer.writeFile(whole)) {
+        if (writer.lengthOf(whole) > MOST_BYTES) {
             return NO_ROOM;
         }
-        atHand.becomes(writer.file);
+        writer.writeFile(whole, atHand);
         if (whole) {
             setter.startFrom(atHand.sumOf(0, atHand.length));
         }
@@ -392,32 +392,27 @@ public final class FormatFiles {
         }
     }
 
-    /** A row of bytes with its limit. */
+    /** A row of bytes; bytes beyond its room are counted, but not held. */
     private static final class Octets {
-        final byte[] bytes = new byte[MOST_BYTES];
+        final byte[] bytes;
         int length = 0;
-        boolean isOverfull = false;
+
+        Octets(int room) {
+            bytes = new byte[Math.max(0, room)];
+        }
 
         boolean holds(int i) {
-            return i >= 0 && i < length;
+            return i >= 0 && i < length && i < bytes.length;
         }
 
         int at(int i) {
             return holds(i) ? bytes[i] & 255 : 0;
         }
 
-        void clear() {
-            length = 0;
-            isOverfull = false;
-        }
-
-        /** A byte that has no room is only remembered to be missing. */
         void append(int b) {
-            if (length >= MOST_BYTES) {
-                isOverfull = true;
-                return;
+            if (length < bytes.length) {
+                bytes[length] = (byte) b;
             }
-            bytes[length] = (byte) b;
             length++;
         }
 
@@ -447,28 +442,27 @@ public final class FormatFiles {
             }
             return s;
         }
-
-        void becomes(Octets other) {
-            System.arraycopy(other.bytes, 0, bytes, 0, other.length);
-            length = other.length;
-        }
     }
 
-    /** Writes files beside the bytes at hand, since these stay when a file has no room. */
+    /** Writes files; each is measured first, since the bytes at hand stay when it has no room. */
     private static final class Writer {
-        final Octets file = new Octets();
         private final Setter setter;
+        private final Octets measure = new Octets(0);
         private final int[] order = new int[PARTS];
 
         Writer(Setter setter) {
             this.setter = setter;
         }
 
-        /** Whether the file had room. */
-        boolean writeFile(boolean whole) {
+        int lengthOf(boolean whole) {
+            writeFile(whole, measure);
+            return measure.length;
+        }
+
+        void writeFile(boolean whole, Octets file) {
             int written = whole ? setter.partsWithEntries() : setter.changed;
-            file.clear();
-            writeHead(whole);
+            file.length = 0;
+            writeHead(whole, file);
             file.append(Integer.bitCount(written));
             int waiting = written;
             for (int s = 0; s < PARTS && waiting != 0; s++) {
@@ -477,13 +471,12 @@ public final class FormatFiles {
                     break;
                 }
                 order[s] = part;
-                writeSection(s);
+                writeSection(s, file);
                 waiting &= ~(1 << part);
             }
-            return !file.isOverfull;
         }
 
-        private void writeHead(boolean whole) {
+        private void writeHead(boolean whole, Octets file) {
             file.append(FIRST_MARK);
             file.append(SECOND_MARK);
             file.append(whole ? WHOLE : CHANGES);
@@ -493,7 +486,7 @@ public final class FormatFiles {
             }
         }
 
-        private void writeSection(int s) {
+        private void writeSection(int s, Octets file) {
             int start = file.length;
             int source = firstAlike(s);
             file.append(order[s]);
@@ -502,7 +495,7 @@ public final class FormatFiles {
                 file.append(source);
             } else {
                 file.append(OWN_ROWS);
-                writeRows(setter.parts[order[s]]);
+                writeRows(setter.parts[order[s]], file);
             }
             file.appendFour(file.sumOf(start, file.length));
         }
@@ -518,7 +511,7 @@ public final class FormatFiles {
             return s;
         }
 
-        private void writeRows(Entries rows) {
+        private void writeRows(Entries rows, Octets file) {
             file.appendCount(rows.size);
             int before = -1;
             for (int i = 0; i < PLACES; i++) {
@@ -558,11 +551,11 @@ public final class FormatFiles {
             if (fault != 0) {
                 return 0;
             }
-            if (position < 0 || position >= source.length) {
+            if (!source.holds(position)) {
                 fault = ENDED;
                 return 0;
             }
-            int b = source.bytes[position] & 255;
+            int b = source.at(position);
             position++;
             return b;
         }
@@ -626,9 +619,11 @@ public final class FormatFiles {
         private final Setter setter;
         private final Octets file;
         private final Reader reader;
-        private final Entries nothing = new Entries();
-        private final Entries[] rowsOf = new Entries[PARTS];
-        /** For each part that was seen, the part whose section holds its rows. */
+        /** Reads rows again where they are wanted, so that those of all sections need not be kept. */
+        private final Reader again;
+        private final Entries rows = new Entries();
+        /** For each part that was seen, where its rows begin, and the part whose section holds them. */
+        private final int[] rowsAt = new int[PARTS];
         private final int[] sourceOf = new int[PARTS];
         private int seen = 0;
         private int refused = 0;
@@ -637,9 +632,7 @@ public final class FormatFiles {
             this.setter = setter;
             this.file = file;
             reader = new Reader(file);
-            for (int p = 0; p < PARTS; p++) {
-                rowsOf[p] = new Entries();
-            }
+            again = new Reader(file);
         }
 
         int allConflicts() {
@@ -732,12 +725,14 @@ public final class FormatFiles {
         private void readRows(int s, int part) {
             int kind = reader.next();
             sourceOf[part] = part;
+            rowsAt[part] = reader.position;
             if (kind == OWN_ROWS) {
-                reader.nextRows(rowsOf[part]);
+                reader.nextRows(rows);
             } else if (kind == ROWS_OF_ANOTHER) {
                 int source = reader.next();
                 if (source < s && hasOwnRows(partOf[source])) {
                     sourceOf[part] = partOf[source];
+                    rowsAt[part] = rowsAt[partOf[source]];
                 } else {
                     reader.refuse(IMPOSSIBLE);
                 }
@@ -752,7 +747,7 @@ public final class FormatFiles {
 
         /** How many conflicts there were. */
         private int loadSection(int part) {
-            Entries rows = rowsOf[sourceOf[part]];
+            readAgain(part);
             if (isWhole()) {
                 return setter.merge(part, rows);
             }
@@ -760,11 +755,20 @@ public final class FormatFiles {
             return 0;
         }
 
+        private void readAgain(int part) {
+            again.startAt(rowsAt[part]);
+            again.nextRows(rows);
+        }
+
         /** Bytes behind the last section are no part of the base. */
         private void becomeBase() {
             setter.startFrom(file.sumOf(0, reader.position));
             for (int p = 0; p < PARTS; p++) {
-                Entries rows = isIn(seen, p) ? rowsOf[sourceOf[p]] : nothing;
+                if (isIn(seen, p)) {
+                    readAgain(p);
+                } else {
+                    rows.clear();
+                }
                 if (!setter.parts[p].isLike(rows)) {
                     setter.changed |= 1 << p;
                 }
