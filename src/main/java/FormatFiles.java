@@ -551,11 +551,11 @@ public final class FormatFiles {
             if (fault != 0) {
                 return 0;
             }
-            if (!source.holds(position)) {
+            if (position < 0 || position >= source.length || position >= source.bytes.length) {
                 fault = ENDED;
                 return 0;
             }
-            int b = source.at(position);
+            int b = source.bytes[position] & 255;
             position++;
             return b;
         }

@@ -74,6 +74,17 @@ final class HandFile {
         return this;
     }
 
+    /** In place of the bytes at hand, and then loaded: what load() answers. */
+    int load(FormatFiles x) {
+        into(x);
+        return x.load();
+    }
+
+    /** The sum of all its bytes, by which it is known as a base. */
+    int sum() {
+        return sum(toBytes(), 0, out.size());
+    }
+
     static byte[] atHand(FormatFiles x) {
         byte[] row = new byte[x.count(2)];
         for (int i = 0; i < row.length; i++) {

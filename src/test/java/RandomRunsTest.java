@@ -26,24 +26,28 @@ public final class RandomRunsTest {
 
     public static void main(String[] args) {
         for (int seed = 0; seed < RUNS; seed++) {
-            new RandomRunsTest(seed).run(seed);
+            DUE.sentence("run " + seed);
+            new RandomRunsTest(seed).run();
         }
         DUE.end();
     }
 
-    private void run(int seed) {
+    private void run() {
         try {
             while (calls < CALLS) {
                 step();
             }
         } catch (RuntimeException e) {
-            DUE.is("run " + seed + " threw " + e + " at call " + calls, 1, 0);
+            DUE.is("throws of " + e + " at call " + calls, 1, 0);
         }
     }
 
+    /** What calls behind the 512th answer is free. */
     private void is(String call, long got, long want) {
         calls++;
-        DUE.is(call, got, want);
+        if (calls <= CALLS) {
+            DUE.is(call, got, want);
+        }
     }
 
     private int part() {
@@ -103,11 +107,13 @@ public final class RandomRunsTest {
 
     private void get(int p, int i) {
         Long want = model.get(p, i);
+        if (want != null) {
+            is("get(" + p + ", " + i + ")", x.get(p, i), want);
+            return;
+        }
         calls++;
-        if (want == null) {
+        if (calls <= CALLS) {
             DUE.isThrown("get(" + p + ", " + i + ")", () -> x.get(p, i), NoSuchElementException.class);
-        } else {
-            DUE.is("get(" + p + ", " + i + ")", x.get(p, i), want);
         }
     }
 
@@ -141,11 +147,13 @@ public final class RandomRunsTest {
     private void octet() {
         int i = random.nextInt(4) == 0 ? odd() : random.nextInt(model.atHand.length + 2);
         Byte want = model.octet(i);
+        if (want != null) {
+            is("octet(" + i + ")", x.octet(i), want);
+            return;
+        }
         calls++;
-        if (want == null) {
+        if (calls <= CALLS) {
             DUE.isThrown("octet(" + i + ")", () -> x.octet(i), ArrayIndexOutOfBoundsException.class);
-        } else {
-            DUE.is("octet(" + i + ")", x.octet(i), want);
         }
     }
 
