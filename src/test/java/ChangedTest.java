@@ -271,7 +271,7 @@ public final class ChangedTest {
     }
 
     private static void byLoadingChangesOfOther() {
-        DUE.sentence("CHANGED .. (a file of changes is no base; changed parts stay so when it is loaded)");
+        DUE.sentence("CHANGED is a part that has an entry put .. since there is this base (changes that are loaded are none)");
         FormatFiles x = withBase();
         x.put(3, 3, 3);
         DUE.is("load", HandFile.changes(1, sumOfBase(), 1).section(0, 0, 0).load(x), 1);

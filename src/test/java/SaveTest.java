@@ -50,7 +50,7 @@ public final class SaveTest {
     }
 
     private static void head() {
-        DUE.sentence("A FILE: bytes 70, 77, then 0 (WHOLE), the version");
+        DUE.sentence("A FILE: bytes 70, 77, then 0 (WHOLE) .. the version");
         for (int v : new int[] {1, 127, 128, 200}) {
             FormatFiles x = new FormatFiles();
             x.version(v);
@@ -384,7 +384,7 @@ public final class SaveTest {
     }
 
     private static void howManyBytes() {
-        DUE.sentence("9: A file is saved, whole (true), or of changes: how many bytes");
+        DUE.sentence("9: A file is saved, whole (true), or of changes .. how many bytes");
         FormatFiles x = new FormatFiles();
         DUE.is("whole, of none", x.save(true), 5);
         DUE.is("at hand", x.count(2), 5);

@@ -118,7 +118,7 @@ public final class SetterTest {
     }
 
     private static void putCounts() {
-        DUE.sentence("2: An entry of a part is put: how many entries the part has");
+        DUE.sentence("2: An entry of a part is put .. how many entries the part has");
         FormatFiles x = new FormatFiles();
         DUE.is("the first", x.put(4, 7, 5), 1);
         DUE.is("the second", x.put(4, 6, 5), 2);
@@ -298,7 +298,7 @@ public final class SetterTest {
     }
 
     private static void getNoPart() {
-        DUE.sentence("4: NoSuchElementException: no such part");
+        DUE.sentence("4: NoSuchElementException: .. no such part");
         FormatFiles x = new FormatFiles();
         x.put(0, 0, 1);
         x.put(11, 0, 1);
@@ -309,7 +309,7 @@ public final class SetterTest {
     }
 
     private static void getNoPlace() {
-        DUE.sentence("4: NoSuchElementException: no such place");
+        DUE.sentence("4: NoSuchElementException: .. no such part, place");
         FormatFiles x = new FormatFiles();
         x.put(0, 0, 1);
         x.put(0, 99, 1);
