@@ -42,6 +42,7 @@ public final class SaveTest {
         tooManyBytes();
         mostBytesOfChanges();
         tooManyBytesOfChanges();
+        withoutBaseAndTooManyBytes();
         DUE.end();
     }
 
@@ -506,6 +507,59 @@ public final class SaveTest {
         DUE.is("they are the changes before", x.octet(2), 1);
         DUE.is("changed parts", x.count(4), 8);
         DUE.is("a whole file has four bytes less", x.save(true), 7997);
+    }
+
+    private static void withoutBaseAndTooManyBytes() {
+        DUE.sentence("REFUSALS answer, the first that fits: .. -3 not in this state, -4 no room");
+        FormatFiles x = new FormatFiles();
+        fillWithoutBase(x);
+        DUE.is("entries", x.count(5), 800);
+        DUE.is("changed parts", x.count(4), 8);
+        int atHand = x.count(2);
+        DUE.is("a whole file", x.save(true), -4);
+        DUE.is("changes without a base", x.save(false), -3);
+        DUE.is("bytes at hand", x.count(2), atHand);
+        for (int i = 0; i < 100; i++) {
+            x.take(0, i);
+        }
+        DUE.is("changes without a base that have room", x.save(false), -3);
+        DUE.is("a whole file that has room", x.save(true), 5 + 7 * (7 + 99 * 11 + 2));
+    }
+
+    /** Fills parts 0 to 7, each in its own way, by loading what has more sections than bytes, which is no base. */
+    private static void fillWithoutBase(FormatFiles x) {
+        HandFile file = tenEntries(0).into(x);
+        x.load();
+        for (int first = 10; first < 100; first += 10) {
+            HandFile next = tenEntries(first);
+            turnInto(x, file.toBytes(), next.toBytes());
+            x.load();
+            file = next;
+        }
+        for (int p = 1; p < 8; p++) {
+            x.put(p, 0, p);
+        }
+    }
+
+    /** Parts 0 to 7 are alike, with entries at ten places from the first on; a ninth section is cut off. */
+    private static HandFile tenEntries(int first) {
+        HandFile file = HandFile.whole(1, 9).begin().bytes(0, 0, 10);
+        for (int e = 0; e < 10; e++) {
+            file.count(e == 0 ? first : 0).count(-1);
+        }
+        file.end();
+        for (int p = 1; p < 8; p++) {
+            file.section(p, 1, 0);
+        }
+        return file;
+    }
+
+    private static void turnInto(FormatFiles x, byte[] atHand, byte[] want) {
+        for (int i = 0; i < want.length; i++) {
+            if (atHand[i] != want[i]) {
+                x.poke(i, (atHand[i] ^ want[i]) & 255);
+            }
+        }
     }
 
     private static int sumTold(FormatFiles x) {
